@@ -226,6 +226,7 @@ public final class BackTest {
         Due.is(23, "which by 1", x.place(c, 1, 0), 0);
         Due.is(23, "how many by 1", x.place(c, 1, 1), 3);
         Due.is(23, "how many by 2", x.place(c, 2, 1), 4);
+        Due.is(23, "how many by 0", x.place(c, 0, 1), 1);
         Due.say(x, c, 44, 45, 44);
         Due.is(23, "none unlike", x.place(c, 2, 0), 0);
         Due.is(23, "none unlike: one", x.place(c, 2, 1), 1);
@@ -235,6 +236,10 @@ public final class BackTest {
         Due.is(22, "none at all", x.meant(none, 2), 1);
         Due.is(23, "none at all", x.place(none, 2, 0), 0);
         Due.is(23, "none at all: 0", x.place(none, 2, 1), 0);
+        x.set(0, 0, 1);
+        x.set(3, 0, 0);
+        Due.say(x, c, 2, 44, 90);
+        Due.is(22, "ROCK 0, too", x.meant(c, 1), 4);
         Due.is(22, "k 3", x.meant(c, 3), Due.BEYOND);
         Due.is(22, "k -1", x.meant(c, -1), Due.BEYOND);
         Due.is(22, "no CALL", x.meant(2, 0), Due.BEYOND);

@@ -3,6 +3,7 @@ public final class SecondsTest {
     public static void main(String[] args) {
         shouts();
         order();
+        unlikeEchoes();
         asTheyAreThen();
         full();
         time();
@@ -62,6 +63,42 @@ public final class SecondsTest {
         Due.logged(30, x, 1, 1);
         Due.logged(30, x, 0, 3);
         Due.is(30, "none are left", x.count(3), 0);
+    }
+
+    /** Each ECHO keeps its own CALL and ROCK, whichever of them came ahead of it. */
+    private static void unlikeEchoes() {
+        GorgeRocks x = new GorgeRocks();
+        int c = Due.call(x, 1, 2);
+        int d = Due.call(x, 5, 6);
+        x.rock(40, 1);
+        x.rock(10, 3);
+        x.rock(0, 2);
+        x.shout(c, 0);
+        x.shout(d, 1);
+        x.shout(c, 1);
+        x.shout(d, 2);
+        x.shout(d, 0);
+        x.seconds(1);
+        Due.logged(30, x, 1, 2, 1);
+        Due.logged(30, x, 0, 6, 5);
+        x.image();
+        x.seconds(1);
+        Due.logged(30, x, 0, 5, 6);
+        x.seconds(1);
+        Due.logged(30, x, 1, 4, 7);
+        Due.logged(30, x, 0, 0, 3);
+        for (int i = 0; i < 9; i++) {
+            x.shout(d, 0);
+        }
+        x.seconds(5);
+        Due.is(41, "restore", x.restore(), 1);
+        Due.is(41, "rows", x.count(4), 2);
+        Due.logged(41, x, 1, 2, 1);
+        Due.logged(41, x, 0, 6, 5);
+        x.seconds(2);
+        Due.logged(41, x, 2, 5, 6);
+        Due.logged(41, x, 1, 4, 7);
+        Due.logged(41, x, 0, 0, 3);
     }
 
     private static void asTheyAreThen() {
