@@ -9,6 +9,7 @@ final class Due {
 
     private static int wrong = 0;
     private static int asked = 0;
+    private static String about = "";
 
     private Due() {
     }
@@ -17,8 +18,22 @@ final class Due {
         asked++;
         if (got != want) {
             wrong++;
-            System.out.println("promise " + promise + ": " + what + " answered " + got + ", due is " + want);
+            String where = about.isEmpty() ? "promise " + promise : about;
+            System.out.println(where + ": " + what + " answered " + got + ", due is " + want);
         }
+    }
+
+    /** What comes is about this sentence of the document. */
+    static void about(String sentence) {
+        about = sentence;
+    }
+
+    static void is(String what, long got, long want) {
+        is(0, what, got, want);
+    }
+
+    static int asked() {
+        return asked;
     }
 
     static void end() {
@@ -45,11 +60,20 @@ final class Due {
         }
     }
 
-    /** A TEXT is fed byte by byte, so that any length goes. */
-    static int text(GorgeRocks x, int use, String text) {
-        for (int i = 0; i < text.length(); i++) {
-            x.feed(text.charAt(i), 1);
+    /** Bytes come to THE TAPE, eight by eight, so that few calls do. */
+    static void feed(GorgeRocks x, String bytes) {
+        for (int i = 0; i < bytes.length(); i += 8) {
+            int n = Math.min(8, bytes.length() - i);
+            long word = 0;
+            for (int k = 0; k < n; k++) {
+                word |= (long) bytes.charAt(i + k) << 8 * k;
+            }
+            x.feed(word, n);
         }
+    }
+
+    static int text(GorgeRocks x, int use, String text) {
+        feed(x, text);
         return x.text(use);
     }
 
