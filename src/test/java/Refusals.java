@@ -11,7 +11,7 @@ final class Refusals {
     private static final int[] CALLS = {-1, Scenes.RICH_CALLS, 12, LEAST, MOST};
     private static final int[] ROCKS = {-1, Scenes.RICH_ROCKS, 8, LEAST, MOST};
     /** No such ROCK; a digit 0; five digits; below 0. */
-    private static final int[] WAYS = {7, 17, 71, 1117, 9, 10, 20, 101, 1001, 1010, 1110, 11111, 10000, 99999, -1, -11, LEAST, MOST};
+    private static final int[] WAYS = {7, 17, 71, 1117, 9, 10, 20, 100, 101, 1000, 1001, 1010, 1110, 6000, 11111, 10000, 99999, -1, -11, LEAST, MOST};
     private static final int[] SHEETS = {-1, 4, LEAST, MOST};
     private static final int[] NO_SOUNDS = {-1, 54, 55, 56, 57, 58, 59, 100, 256, LEAST, MOST};
 

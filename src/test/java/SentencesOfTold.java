@@ -75,8 +75,36 @@ final class SentencesOfTold {
             y.image();
             y.seconds(9);
             Due.is("the IMAGE of a new object", y.restore(), 0);
+            logOfImage();
         });
         doc.promise(41, "NONE: there is none.", () -> refusals.of(41, Due.NONE));
+    }
+
+    /** THE LOG is full, both as the IMAGE has it and behind it. */
+    private static void logOfImage() {
+        GorgeRocks x = new GorgeRocks();
+        int c = x.call();
+        x.rock(0, 0);
+        for (int i = 0; i < 13; i++) {
+            Due.say(x, c, i);
+            x.shout(c, 0);
+        }
+        x.image();
+        for (int i = 20; i < 35; i++) {
+            Due.say(x, c, i, i);
+            x.shout(c, 0);
+        }
+        for (int times = 0; times < 2; times++) {
+            x.restore();
+            Due.is("rows", x.count(4), 8);
+            for (int k = 0; k < 8; k++) {
+                Due.logged(41, x, k, 12 - k);
+            }
+            Due.say(x, c, 50);
+            x.shout(c, 0);
+            Due.logged(41, x, 0, 50);
+            Due.logged(41, x, 7, 6);
+        }
     }
 
     private static void notKept() {

@@ -71,7 +71,9 @@ final class TermsOfRows {
             fault(1, 0, 52, 1, 2);
             fault(2, 0, 60, 1);
             fault(2, 0, 50, 51);
+            fault(2, 0, 50, 60);
             fault(2, 0, 51, 60);
+            fault(2, 0, 50, 99, 1);
         });
     }
 
@@ -304,6 +306,7 @@ final class TermsOfRows {
             meant(new int[] {2, 4, 90}, new int[] {10, 50, 30, 60}, 1, 3, 4);
             // NAY, SECOND, LESS, BACK: SECOND and BACK do not come to the same either way.
             meant(new int[] {2, 4, 90, 6}, new int[] {10, 20, 30, 40}, 1, 5, 12);
+            meant(new int[] {2, 4, 90, 6}, new int[] {50, 10, 20, 60, 30, 40, 0, 40}, 1, 5, 12);
             meant(new int[] {}, new int[] {10, 20, 30, 40}, 1, 1, 1);
             meant(new int[] {44, 80}, new int[] {10, 20, 30}, 1, 1, 1);
             Due.is("by 3", none().meant(0, 3), Due.BEYOND);
@@ -337,6 +340,7 @@ final class TermsOfRows {
             // 4 44 2, 5 44 3, and BACK of both: places 0 and 2 have 4 each.
             place(new int[] {4, 44, 2}, new int[] {10, 40}, 2, 0, 4);
             place(new int[] {4, 44, 2}, new int[] {10, 40}, 1, 0, 3);
+            place(new int[] {4, 44, 2}, new int[] {50, 10, 20, 60, 30, 0, 40, 10}, 1, 0, 3);
             // 40 7 4, 40 6 5, 4 7 40: in place 2 there are 4, 5, 40.
             place(new int[] {40, 7, 4}, new int[] {10, 40}, 1, 2, 3);
             // AND and WORD 0, NUMBER 99 and WORD 49 are unlike.

@@ -42,6 +42,7 @@ final class TermsOfTexts {
             gives("0" + "+1".repeat(29), 29);
             gives("0" + "+1".repeat(28) + "+2", 30);
             gives("10" + "+1".repeat(29), 39);
+            gives("!s" + "+1".repeat(29), 29);
             GorgeRocks x = new GorgeRocks();
             Due.feed(x, "1+".repeat(29) + "10");
             Due.is("60 bytes", x.count(6), 60);

@@ -107,6 +107,7 @@ final class TermsOfTime {
             Due.logged(3, x, 1, 13);
             Due.is("rows", x.count(4), 6);
             twoPerSecond();
+            unlikeRocks();
         });
     }
 
@@ -122,6 +123,25 @@ final class TermsOfTime {
         int[] came = {21, 23, 25, 20, 22, 24};
         for (int k = 0; k < 6; k++) {
             Due.logged(3, x, 5 - k, came[k]);
+        }
+    }
+
+    /** Each ECHO keeps its own CALL and ROCK while others come and go. */
+    private static void unlikeRocks() {
+        GorgeRocks x = new GorgeRocks();
+        int[] kms = {10, 30, 40, 20, 51, 0};
+        int[] delays = {4, 1, 6, 2, 5, 3};
+        int[][] back = {{3, 90, 7, 44}, {2, 70, 6, 44}, {44, 6, 90, 2}, {2, 90, 6, 44}, {44, 90}, {2, 90, 6, 44, 50}};
+        for (int i = 0; i < 6; i++) {
+            x.rock(kms[i], delays[i]);
+            int c = i < 5 ? Due.call(x, 2, 90, 6, 44) : Due.call(x, 2, 90, 6, 44, 50);
+            Due.is("shout " + i, x.shout(c, i), delays[i]);
+        }
+        int[] came = {1, 3, 5, 0, 4, 2};
+        for (int second = 1; second <= 6; second++) {
+            x.seconds(1);
+            Due.logged(3, x, 0, back[came[second - 1]]);
+            Due.is("on their way", x.count(3), 6 - second);
         }
     }
 
