@@ -71,7 +71,7 @@ public final class GorgeRocks {
 
     private final World world = new World();
     private final World kept = new World();
-    private final Reader reader = new Reader(world.tape);
+    private final Reader reader = new Reader();
     private final Grammar grammar = new Grammar();
     private final Meanings meanings = new Meanings();
     private final Deal deal = new Deal();
@@ -214,7 +214,7 @@ public final class GorgeRocks {
         if (!isUse(use)) {
             return error(BEYOND);
         }
-        int fault = reader.faultOfTape(use == TURNS_USE ? TURNS_NAMES : OFFERS_NAMES);
+        int fault = reader.faultOf(world.tape, use == TURNS_USE ? TURNS_NAMES : OFFERS_NAMES);
         world.tape.clear();
         if (fault >= 0) {
             return -10 - fault;
@@ -736,10 +736,11 @@ public final class GorgeRocks {
             return unsafe;
         }
 
-        /** All but NUMBERS become their CONTRARIES, from a place on, each or each second one. */
-        void sayNay(int from, int step) {
-            for (int i = from; i < size; i += step) {
-                if (!isNumber(items[i])) {
+        /** All but NUMBERS become their CONTRARIES, or, of these, only those in places 1, 3, .. */
+        void sayNay(boolean secondOnly) {
+            for (int i = 0; i < size; i++) {
+                boolean stays = isNumber(items[i]) || secondOnly && i % 2 == 0;
+                if (!stays) {
                     items[i] = contraryOf(items[i]);
                 }
             }
@@ -866,16 +867,13 @@ public final class GorgeRocks {
         private static final int LEVELS = 5;
 
         final Row draft = new Row(TAPE_MOST);
-        private final Row tape;
+        private Row tape = new Row(0);
         private String names = TURNS_NAMES;
         private int at = 0;
 
-        Reader(Row tape) {
-            this.tape = tape;
-        }
-
         /** The FAULT, or -1 if THE TAPE is a TEXT, which the draft is then. */
-        int faultOfTape(String namesOfUse) {
+        int faultOf(Row read, String namesOfUse) {
+            tape = read;
             names = namesOfUse;
             at = 0;
             draft.clear();
@@ -1079,8 +1077,8 @@ public final class GorgeRocks {
         /** A row becomes what a ROCK sends back of it. */
         void sendBack(Rock rock, Row row) {
             switch (rock.kind) {
-                case NAY: row.sayNay(0, 1); break;
-                case SECOND: row.sayNay(1, 2); break;
+                case NAY: row.sayNay(false); break;
+                case SECOND: row.sayNay(true); break;
                 case LESS: row.turnNumbers(); break;
                 case BACK: row.turnRound(); break;
                 case SWALLOW:
@@ -1088,7 +1086,7 @@ public final class GorgeRocks {
                     row.leaveOutEach(rock.m + 1);
                     break;
                 case TOLD:
-                    row.sayNay(0, 1);
+                    row.sayNay(false);
                     turnByText(row, rock.m);
                     break;
                 default: break;

@@ -19,16 +19,30 @@ public final class RulesTest {
         "->", "::", "Exact\\b", "\\bprotected\\b", "@", "\\bnull\\s*\\)\\s*\\{\\s*\\}", "\\bjava\\.", "\\bString\\.format",
     };
 
+    /** What the class calls of the library; LANGUAGE.md lists each of them. */
+    private static final Set<String> LIBRARY = Set.of(
+        "java/lang/Object.<init>()V", "java/lang/Math.max(II)I", "java/lang/Math.min(II)I", "java/lang/Long.bitCount(J)I",
+        "java/lang/String.indexOf(I)I", "java/lang/System.arraycopy(Ljava/lang/Object;ILjava/lang/Object;II)V");
+    private static final Set<String> LIBRARY_CLASSES = Set.of("java/lang/Object", "java/lang/Math", "java/lang/Long",
+        "java/lang/String", "java/lang/System");
+    /** A run's room holds 600,000 objects and 7.3 million places: a thousand such objects fit well. */
+    private static final int OBJECTS_MOST = 500;
+    private static final int PLACES_MOST = 6000;
+
     private static int wrong = 0;
 
-    public static void main(String[] args) throws IOException {
+    public static void main(String[] args) throws IOException, IllegalAccessException {
         String project = System.getProperty("project", ".");
         String shared = System.getProperty("shared", "../shared");
-        Set<String> face = faceOfDocument(read(Path.of(shared, "DOC.md")));
-        checkFace(face);
-        String source = withoutComments(read(Path.of(project, "src/main/java/GorgeRocks.java")));
+        String document = read(Path.of(shared, "DOC.md"));
+        String written = read(Path.of(project, "src/main/java/GorgeRocks.java"));
+        String source = withoutComments(written);
+        checkFace(faceOfDocument(document));
+        checkLinesOfInterface(document, written);
         checkWords(source);
         checkLengths(source);
+        checkLibrary();
+        checkRoom();
         System.out.println(wrong == 0 ? "the face and the rules hold" : wrong + " faults");
         if (wrong != 0) {
             System.exit(1);
@@ -93,6 +107,65 @@ public final class RulesTest {
         }
         if (fieldsOf(GorgeRocks.class) > 20 || GorgeRocks.class.getFields().length != 0) {
             fault("fields of the class");
+        }
+    }
+
+    /** "Ahead of the calls .. the interface says": the line stands just ahead of them, and they follow in that order. */
+    private static void checkLinesOfInterface(String document, String written) {
+        Matcher m = Pattern.compile("(?m)^Ahead of the calls (.*) the interface says: (---- .*)\\.$").matcher(document);
+        StringBuilder due = new StringBuilder();
+        while (m.find()) {
+            due.append(m.group(2)).append('\n');
+            for (String name : m.group(1).split(", ")) {
+                due.append(name.replace("`", "")).append('\n');
+            }
+        }
+        StringBuilder has = new StringBuilder();
+        Matcher line = Pattern.compile("(?m)^    (?:// (---- .*)|public int (\\w+)\\(.*)$").matcher(written);
+        while (line.find()) {
+            has.append(line.group(1) != null ? line.group(1) : line.group(2)).append('\n');
+        }
+        if (due.length() == 0 || has.indexOf(due.toString()) != 0) {
+            fault("the interface says\n" + has + "due is\n" + due);
+        }
+    }
+
+    private static void checkLibrary() throws IOException {
+        checkLibraryOf(GorgeRocks.class);
+        for (Class<?> inside : GorgeRocks.class.getDeclaredClasses()) {
+            checkLibraryOf(inside);
+        }
+    }
+
+    private static void checkLibraryOf(Class<?> type) throws IOException {
+        ClassFile file = new ClassFile(type);
+        for (String called : file.calledOutside()) {
+            if (!LIBRARY.contains(called)) {
+                fault(type + " calls " + called);
+            }
+        }
+        for (String used : file.classesOutside()) {
+            if (!LIBRARY_CLASSES.contains(used)) {
+                fault(type + " names " + used);
+            }
+        }
+        if (file.isJoinedAsItRuns()) {
+            fault(type + " has a lambda, or texts joined by +");
+        }
+    }
+
+    /** All rows are made with the object: it takes no more room behind its calls. */
+    private static void checkRoom() throws IllegalAccessException {
+        Room fresh = new Room(new GorgeRocks());
+        if (fresh.objects > OBJECTS_MOST || fresh.places > PLACES_MOST) {
+            fault("a new object takes " + fresh.objects + " objects, " + fresh.places + " places");
+        }
+        for (GorgeRocks x : new GorgeRocks[] {Scenes.full(), Scenes.rich()}) {
+            Room used = new Room(x);
+            if (used.objects > fresh.objects || used.places > fresh.places) {
+                fault("behind its calls it takes " + used.objects + " objects, " + used.places + " places; at first "
+                    + fresh.objects + ", " + fresh.places);
+            }
         }
     }
 
