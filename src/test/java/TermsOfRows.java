@@ -345,6 +345,9 @@ final class TermsOfRows {
             place(new int[] {40, 7, 4}, new int[] {10, 40}, 1, 2, 3);
             // AND and WORD 0, NUMBER 99 and WORD 49 are unlike.
             place(new int[] {50, 49, 99, 0}, new int[] {40}, 1, 0, 2);
+            // So are SOUNDS that are 64 apart, as bits of a long would not tell.
+            place(new int[] {0, 64}, new int[] {40}, 1, 0, 2);
+            place(new int[] {35, 44, 99}, new int[] {40}, 1, 0, 2);
         });
     }
 
