@@ -25,7 +25,9 @@ final class SentencesOfTold {
         x.set(0, 0, 4);
         x.set(0, 1, 9);
         x.set(0, 2, 19);
-        Due.text(x, 0, "m");
+        // What THE TAPE has goes first, so that both are TEXTS.
+        x.text(0);
+        Due.is("other TURNS", Due.text(x, 0, "m"), 1);
         x.untell(1);
         Due.feed(x, "n+n");
         x.so(1);
@@ -71,6 +73,7 @@ final class SentencesOfTold {
             GorgeRocks twin = Scenes.rich();
             twin.image();
             Twins.alike(41, "restore()", x, twin);
+            textsOfImage();
             GorgeRocks y = new GorgeRocks();
             y.image();
             y.seconds(9);
@@ -104,6 +107,35 @@ final class SentencesOfTold {
             x.shout(c, 0);
             Due.logged(41, x, 0, 50);
             Due.logged(41, x, 7, 6);
+        }
+    }
+
+    /** TEXTS that the IMAGE has come again, and those that it has not are gone. */
+    private static void textsOfImage() {
+        GorgeRocks x = new GorgeRocks();
+        Due.call(x, 44);
+        x.rock(60, 0);
+        x.image();
+        Due.text(x, 0, "s+1");
+        Due.text(x, 1, "o+2");
+        Due.is("TURNS", x.heard(0, 1, 0), 45);
+        Due.is("OFFERS", x.bargain(3010, 0, 0, 1, 3), -8);
+        x.restore();
+        Due.is("no TURNS again", x.heard(0, 1, 0), 44);
+        Due.is("no OFFERS again", x.bargain(3010, 0, 0, 1, 3), -9);
+        Due.is("untell(0)", x.untell(0), 0);
+        Due.is("untell(1)", x.untell(1), 0);
+        Due.text(x, 0, "s-1");
+        Due.text(x, 1, "o+3");
+        x.image();
+        x.untell(0);
+        Due.text(x, 1, "o");
+        for (int times = 0; times < 2; times++) {
+            x.restore();
+            Due.is("TURNS again", x.heard(0, 1, 0), 43);
+            Due.is("OFFERS again", x.bargain(3010, 0, 0, 1, 3), -7);
+            Due.is("untell(0)", x.untell(0), 1);
+            Due.is("untell(1)", x.untell(1), 1);
         }
     }
 

@@ -348,6 +348,12 @@ final class TermsOfRows {
             // So are SOUNDS that are 64 apart, as bits of a long would not tell.
             place(new int[] {0, 64}, new int[] {40}, 1, 0, 2);
             place(new int[] {35, 44, 99}, new int[] {40}, 1, 0, 2);
+            // A SOUND that two of these rows have there counts once.
+            for (int[] row : new int[][] {{2, 90}, {90, 2}, {50, 90}, {90, 51}, {49, 61}, {99, 0}}) {
+                int turned = row[0] == 49 ? 1 : 0;
+                place(row, new int[] {10, 30}, 1, turned, 2);
+                place(row, new int[] {10, 30}, 2, turned, 2);
+            }
         });
     }
 

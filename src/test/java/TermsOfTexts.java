@@ -196,6 +196,12 @@ final class TermsOfTexts {
             fault("!(((((7", 5);
             gives("!((((7))))", 0);
             gives("!((((7))))+(((((8)))))", 8);
+            // With 5 open a Q must come all the same.
+            fault("!!!!!", 5);
+            fault("((((()))))", 5);
+            fault("(((((+7)))))", 5);
+            fault("!!!!!*7", 5);
+            fault("((((!)))) ", 5);
         });
     }
 
